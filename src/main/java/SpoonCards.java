@@ -990,6 +990,11 @@ public final class SpoonCards {
         private int at;
         /** Whether the sign at the place "at" is not allowed there, or is missing. */
         private boolean wrong;
+        /** The command that has been read last: its action, and what this is called with. */
+        private int action;
+        private int first;
+        private int second;
+        private int third;
 
         int add(char sign) {
             if (length < MAX_TEXT) {
@@ -1008,6 +1013,9 @@ public final class SpoonCards {
             readSign('C');
             for (int command = 0; command < MAX_TEXT && !wrong && at < length; command++) {
                 readCommand(card);
+                if (!wrong && !card.attempt(action, first, second, third)) {
+                    leftOut++;
+                }
             }
             return wrong ? at : NONE;
         }
@@ -1015,33 +1023,34 @@ public final class SpoonCards {
         private void readCommand(Card card) {
             switch (readLetter(COMMAND_LETTERS)) {
                 case INGREDIENT:
-                    obey(card, INGREDIENT, readGrains(), 0, 0);
+                    keep(INGREDIENT, readGrains(), 0, 0);
                     break;
                 case STEP:
-                    obey(card, STEP, readNumber(1, MAX_MINUTES), readPan(), readDigit(0, 1));
+                    keep(STEP, readNumber(1, MAX_MINUTES), readPan(), readDigit(0, 1));
                     break;
                 case USE:
-                    obey(card, USE, readStep(), readNumber(0, MAX_INGREDIENTS - 1), 1);
+                    keep(USE, readStep(), readNumber(0, MAX_INGREDIENTS - 1), 1);
                     break;
                 case NEED:
-                    obey(card, NEED, readStep(), readStep(), 1);
+                    keep(NEED, readStep(), readStep(), 1);
                     break;
                 case PANS:
-                    obey(card, PANS, readDigit(0, KINDS - 1), readDigit(0, MAX_PIECES), 0);
+                    keep(PANS, readDigit(0, KINDS - 1), readDigit(0, MAX_PIECES), 0);
                     break;
                 case SERVINGS:
-                    obey(card, SERVINGS, card.cardServings, readNumber(1, MAX_SERVINGS), 0);
+                    keep(SERVINGS, card.cardServings, readNumber(1, MAX_SERVINGS), 0);
                     break;
                 default:
-                    obey(card, SET, RULE, readDigit(0, RULES - 1), 0);
+                    keep(SET, RULE, readDigit(0, RULES - 1), 0);
                     break;
             }
         }
 
-        private void obey(Card card, int action, int a, int b, int c) {
-            if (!wrong && !card.attempt(action, a, b, c)) {
-                leftOut++;
-            }
+        private void keep(int itsAction, int a, int b, int c) {
+            action = itsAction;
+            first = a;
+            second = b;
+            third = c;
         }
 
         private int readStep() {
@@ -1058,7 +1067,7 @@ public final class SpoonCards {
             int above = 0;
             int below = 1;
             if (isNext('+')) {
-                readSign('+');
+                at++;
                 above = readDigit(1, 7);
                 readSign('/');
                 below = readDigit(above + 1, 8);

@@ -48,7 +48,7 @@ final class Due {
     }
 
     /** What a call answers, or the name of what it throws; by getClass, as the machine's exceptions are others. */
-    private static String outcome(IntSupplier call) {
+    static String outcome(IntSupplier call) {
         try {
             return "" + call.getAsInt();
         } catch (RuntimeException thrown) {

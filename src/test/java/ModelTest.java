@@ -130,6 +130,9 @@ final class ModelTest {
     }
 
     private void both(String name, Object... arguments) {
+        if (calls == CALLS) {
+            return;
+        }
         calls++;
         compared++;
         String got = outcome(x, name, arguments);
