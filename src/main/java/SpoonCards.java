@@ -813,7 +813,7 @@ public final class SpoonCards {
             return end[s] <= minute;
         }
 
-        /** The minute from which the pan of a step is in use and washed no more. */
+        /** From this minute on the pan of a step is neither in use nor washed. */
         private int freeAgain(int s) {
             return end[s] + card.settings[WASHING];
         }

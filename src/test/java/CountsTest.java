@@ -67,9 +67,13 @@ final class CountsTest {
         DUE.answer("about(9) of a stuck step's ingredient", 0, () -> x.about(9));
         DUE.badArgument("about(-1)", x, () -> x.about(-1));
         DUE.badArgument("about(10)", x, () -> x.about(10));
+        x.use(0, 0, false);
+        x.use(3, 0, false);
+        DUE.answer("about(9), only the ingredient 0", 1, () -> x.about(9));
         SpoonCards y = new SpoonCards();
         y.step(7, 1, true);
         y.pans(1, 0);
+        DUE.answer("about(6) behind an action", 1, () -> y.about(6));
         DUE.answer("about(5) if all steps are stuck", 0, () -> y.about(5));
         DUE.answer("about(7) of a stuck step", 7, () -> y.about(7));
     }
@@ -205,6 +209,26 @@ final class CountsTest {
         DUE.answer("its last step", 0, () -> x.begun(13));
         DUE.answer("its last step is busy in the minute 1500", 1, () -> x.during(1500, 1));
         DUE.answer("done in the minute 1500", 13, () -> x.during(1500, 9));
+        DUE.answer("the minutes of all 14 steps", 14 * 90, () -> x.about(8));
+        DUE.answer("the steps that need 1", 1, () -> x.stepOf(1, 5));
+        x.ingredient(5);
+        DUE.answer("first use by none of 14 steps", -1, () -> x.ingredientOf(0, 6));
+        SpoonCards y = new SpoonCards();
+        for (int s = 0; s < 14; s++) {
+            y.step(90, -1, true);
+        }
+        for (int s = 1; s < 14; s++) {
+            y.need(s, s - 1, true);
+        }
+        DUE.answer("the way of the first of the other chain", 14 * 90, () -> y.stepOf(0, 6));
+        DUE.answer("what the last of the other chain needs", 13, () -> y.stepOf(13, 9));
+        DUE.answer("the longest way of the other chain", 14 * 90, () -> y.about(7));
+        SpoonCards z = Cards.of("Cs0140s0140s0140n0002n0100");
+        DUE.answer("all that 1 needs, by 0", 2, () -> z.stepOf(1, 9));
+        z.minutes(2, 9);
+        DUE.answer("end behind an action", 11, () -> z.stepOf(1, 8));
+        z.minutes(2, 5);
+        DUE.answer("begin behind an action", 6, () -> z.stepOf(1, 7));
     }
 
     /** Promise 10, one cook: 5, 9 and 3 minutes; 3 and 4 need 2, and 5 needs 3. */

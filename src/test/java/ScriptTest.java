@@ -10,6 +10,7 @@ final class ScriptTest {
         questions();
         otherGroups();
         order();
+        presentState();
         wrongScripts();
         scriptsChangeNothing();
         simulateWrong();
@@ -97,6 +98,7 @@ final class ScriptTest {
         good(800001);
         bad(800000);
         good(801006);
+        good(801099);
         bad(801005);
         bad(802099);
         bad(800101);
@@ -140,6 +142,18 @@ final class ScriptTest {
         script(2, 500001801019L, 1);
         script(2, 540001600000L, 1);
         script(3, 530003540001601000L, -1);
+    }
+
+    /** What a script or a simulation starts from is what actions have made. */
+    private static void presentState() {
+        SpoonCards x = new SpoonCards();
+        x.ingredient(7);
+        x.step(8, -1, true);
+        DUE.answer("the whole in a script", -1, () -> x.runScript(2, 700008800002L));
+        x.minutes(0, 9);
+        DUE.answer("the whole in a script behind an action", 0, () -> x.runScript(1, 700008));
+        x.undo();
+        DUE.answer("the whole in a script behind undo()", -1, () -> x.runScript(1, 700008));
     }
 
     private static void wrongScripts() {

@@ -91,6 +91,7 @@ final class TextTest {
                 error(text.substring(0, length) + "x", length);
                 error(text.substring(0, length) + "i", length);
                 error(text.substring(0, length) + ":", length);
+                error(text.substring(0, length) + "/", length);
                 error(text.substring(0, length) + (char) 0xB2, length);
             }
         }
@@ -219,6 +220,11 @@ final class TextTest {
         }
         leftOut(many.toString(), 1);
         leftOut("C" + many.substring(53) + "s0100s0100", 1);
+        SpoonCards y = Cards.of("Ci01ps0500s0500u0000u0100n0100n0001");
+        DUE.answer("load() again leaves out no more", 1, () -> y.load());
+        Cards.write(y, "Ci01ps0500s0500");
+        y.load();
+        DUE.text("load() of less", Look.at(Cards.of("Ci01ps0500s0500")).substring(8), Look.at(y).substring(8));
         SpoonCards x = Cards.of(many.toString());
         DUE.answer("12 ingredients are loaded", 12, () -> x.about(0));
         DUE.answer("13 steps are loaded", 13, () -> x.about(1));

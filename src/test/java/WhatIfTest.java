@@ -122,6 +122,16 @@ final class WhatIfTest {
         // one cook: the step without hands had better begin early
         bestRuleOf("Cs0541s0241s2040n0201", 2);
         bestRuleOf("Cs2041s0241s0540n0201", 3);
+        // two stuck steps by each rule, and the third rule is the best one for the others
+        bestRuleOf("Cs0541s0241s2040n0201k00s0500s0500", 2);
+        SpoonCards y = new SpoonCards();
+        y.step(5, -1, true);
+        y.step(2, -1, true);
+        y.step(20, -1, false);
+        y.need(2, 1, true);
+        DUE.answer("bestRule() behind actions", 2, () -> y.bestRule());
+        y.need(2, 1, false);
+        DUE.answer("bestRule() behind one more", 0, () -> y.bestRule());
         // two pieces of the pan, not washed: the long one first
         SpoonCards x = Cards.of("Cs0300s0300s0600k02");
         x.set(2, 0);
