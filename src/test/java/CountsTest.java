@@ -1,3 +1,5 @@
+import java.util.function.IntUnaryOperator;
+
 /** Promises 6 to 13: what there is. */
 final class CountsTest {
     private static final Due DUE = new Due("CountsTest");
@@ -18,11 +20,8 @@ final class CountsTest {
         DUE.end();
     }
 
-    private static void row(String name, int[] want, java.util.function.IntUnaryOperator got) {
-        for (int k = 0; k < want.length; k++) {
-            int which = k;
-            DUE.answer(name + ", " + k, want[k], () -> got.applyAsInt(which));
-        }
+    private static void row(String name, int[] want, IntUnaryOperator got) {
+        DUE.each(name, want.length, k -> want[k], got);
     }
 
     /** The steps of a plan in their order, each with its begin and end; no step is begun behind them. */

@@ -1,4 +1,5 @@
 import java.util.function.IntSupplier;
+import java.util.function.IntUnaryOperator;
 
 /** Counts the answers of one test that are not as due, and ends the program with 1 if there was one. */
 final class Due {
@@ -13,6 +14,14 @@ final class Due {
     /** A call must answer this number. */
     void answer(String call, int want, IntSupplier got) {
         text(call, "" + want, outcome(got));
+    }
+
+    /** A call must answer for each number from 0 to count - 1 what is wanted for it. */
+    void each(String call, int count, IntUnaryOperator want, IntUnaryOperator got) {
+        for (int k = 0; k < count; k++) {
+            int which = k;
+            answer(call + ", " + which, want.applyAsInt(which), () -> got.applyAsInt(which));
+        }
     }
 
     /** A call must throw exactly this exception, and x must be afterwards as it was before. */

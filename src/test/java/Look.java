@@ -6,8 +6,12 @@ final class Look {
     }
 
     static String at(SpoonCards x) {
+        return "error " + x.errorPosition() + card(x);
+    }
+
+    /** The same but for the text. */
+    static String card(SpoonCards x) {
         StringBuilder all = new StringBuilder();
-        all.append("error ").append(x.errorPosition());
         row(all, "about", 10, x::about);
         for (int i = 0; i < x.about(0); i++) {
             int which = i;
@@ -22,6 +26,20 @@ final class Look {
         row(all, "pieces", 4, x::pieces);
         row(all, "settings", 5, x::setting);
         return all.toString();
+    }
+
+    /** The same with the states that are remembered, the save slots and the text; x is not to be used behind it. */
+    static String wholly(SpoonCards x) {
+        StringBuilder all = new StringBuilder(at(x));
+        for (int count = 0; count < 16; count++) {
+            all.append("\nundo ").append(Due.outcome(() -> x.undo())).append(": ").append(at(x));
+        }
+        for (int k = 0; k < 2; k++) {
+            int slot = k;
+            all.append("\nslot ").append(Due.outcome(() -> x.restore(slot))).append(": ").append(at(x));
+        }
+        all.append("\nload ").append(Due.outcome(() -> x.load())).append(": ").append(at(x));
+        return all.append("\ntext of ").append(x.clearText()).toString();
     }
 
     private static void row(StringBuilder all, String name, int count, IntUnaryOperator number) {

@@ -15,6 +15,8 @@ final class ScriptTest {
         scriptsChangeNothing();
         simulateWrong();
         simulateTurns();
+        simulateFullCard();
+        simulateOneTurn();
         DUE.end();
     }
 
@@ -206,6 +208,50 @@ final class ScriptTest {
         for (long seed = 1000; seed < 1040; seed++) {
             simulated(TEXT, seed * 0x9E3779B97F4A7C15L);
         }
+    }
+
+    /** What is above 12 ingredients or 14 steps is left out. */
+    private static void simulateFullCard() {
+        for (long seed = 0; seed < 20; seed++) {
+            simulated("C" + "i01p".repeat(12) + "s0140".repeat(14), seed);
+        }
+    }
+
+    /** The seed from which the first turn has this r, which is not negative. */
+    private static long seedOf(int r) {
+        long inverse = 1;
+        for (int round = 0; round < 6; round++) {
+            inverse *= 2 - 6364136223846793005L * inverse;
+        }
+        return (((long) r << 33) - 1442695040888963407L) * inverse;
+    }
+
+    /** One turn with the least and the greatest q, and with those where the numbers made of q begin anew. */
+    private static void simulateOneTurn() {
+        int most = Integer.MAX_VALUE / 8;
+        for (int which = 0; which < 8; which++) {
+            for (int q = 0; q <= 2100; q++) {
+                oneTurn(which, q);
+                oneTurn(which, most - q);
+            }
+            for (int q : new int[] {4998, 4999, 5000, 5001, 9999, 10000}) {
+                oneTurn(which, q);
+            }
+        }
+    }
+
+    private static void oneTurn(int which, int q) {
+        SpoonCards x = new SpoonCards();
+        x.set(0, 1);
+        x.ingredient(50);
+        x.step(30, SpoonCards.NONE, true);
+        x.step(9, 2, false);
+        x.pans(3, 0);
+        long seed = seedOf(8 * q + which);
+        int got = x.simulate(seed, 1);
+        Due.outcome(() -> turn(x, which, q));
+        int want = 1000 * x.about(5) + 10 * x.about(6) + x.about(4) % 10;
+        DUE.answer("simulate by one turn, r % 8 is " + which + " and q is " + q, want, () -> got);
     }
 
     private static void simulated(String text, long seed) {
