@@ -334,6 +334,10 @@ final class EdgesTest {
         // 1 grain a serving: 1 is off by 5, and 6, 12, 18 and 24 are not off
         SpoonCards y = amount(1);
         y.servings(1, 1);
+        for (int least = 1; least <= 5; least++) {
+            int from = least;
+            DUE.answer("bestServings(" + from + ", next)", from + 1, () -> y.bestServings(from, from + 1));
+        }
         DUE.answer("bestServings(1, 24)", 6, () -> y.bestServings(1, 24));
         DUE.answer("bestServings(1, 6)", 6, () -> y.bestServings(1, 6));
         DUE.answer("bestServings(1, 5)", 5, () -> y.bestServings(1, 5));

@@ -17,6 +17,7 @@ final class ScriptTest {
         simulateTurns();
         simulateFullCard();
         simulateOneTurn();
+        simulateChangesNothing();
         DUE.end();
     }
 
@@ -135,7 +136,11 @@ final class ScriptTest {
         script(2, 520000700034L, 1);
         script(2, 200010602230L, -1);
         script(2, 200010602220L, 1);
-        script(2, 104240801024L, -1);
+        // for 24 of 4 the 120 grains are 720: 5 tablespoons; for 4 of 24 they are 20: 3 pinches
+        script(2, 104240801005L, -1);
+        script(2, 104240801004L, 1);
+        script(2, 124040801003L, -1);
+        script(2, 124040801002L, 1);
         script(2, 302010602000L, -1);
         script(3, 302010301021302011L, 2);
         script(3, 431000301031601160L, -1);
@@ -240,13 +245,37 @@ final class ScriptTest {
         }
     }
 
-    private static void oneTurn(int which, int q) {
+    /** 256 turns of each kind, made or left out, one by one. */
+    private static void simulateChangesNothing() {
+        for (int which = 0; which < 8; which++) {
+            SpoonCards x = used();
+            for (int q = 0; q < 128; q++) {
+                x.simulate(seedOf(8 * q + which), 1);
+                x.simulate(seedOf(8 * (256 + q) + which), 1);
+            }
+            DUE.text("simulate changes nothing, r % 8 is " + which, Look.wholly(used()), Look.wholly(x));
+        }
+    }
+
+    private static SpoonCards turned() {
         SpoonCards x = new SpoonCards();
         x.set(0, 1);
         x.ingredient(50);
         x.step(30, SpoonCards.NONE, true);
         x.step(9, 2, false);
         x.pans(3, 0);
+        return x;
+    }
+
+    private static SpoonCards used() {
+        SpoonCards x = turned();
+        x.use(0, 0, true);
+        x.need(1, 0, true);
+        return x;
+    }
+
+    private static void oneTurn(int which, int q) {
+        SpoonCards x = turned();
         long seed = seedOf(8 * q + which);
         int got = x.simulate(seed, 1);
         Due.outcome(() -> turn(x, which, q));
